@@ -36,7 +36,6 @@ public final class BellLots {
     private final Images images = new Images();
     private final Finds finds = new Finds();
     private final Lot lot = new Lot();
-    private final Cheapest cheapest = new Cheapest();
     private long traced;
 
     public BellLots() {
@@ -210,8 +209,9 @@ public final class BellLots {
         if (t != -1 && !told.hasTown(t)) {
             return BAD;
         }
-        int least = cheapest.search(told, hanging);
-        return t == -1 || least == NONE ? least : at(cheapest.bellIn, t);
+        // Every TOWER bears the BELL in it: it was told or CUT so, and widens() refuses less. So all may stay, for 0;
+        // and a BELL that goes costs 1 at least. No other way is as cheap, and there always is this one.
+        return t == -1 ? 0 : at(hanging.bellIn, t);
     }
 
     public int round(int z) {
@@ -450,7 +450,7 @@ public final class BellLots {
     private int harmlessWays() {
         int ways = 1;
         for (int b = 0; b < told.towns; b++) {
-            ways *= Math.max(0, Integer.bitCount(fitsOf(b)) - told.bellsHungBefore(b));
+            ways *= Integer.bitCount(fitsOf(b)) - told.bellsHungBefore(b);
         }
         return ways;
     }
@@ -959,76 +959,6 @@ public final class BellLots {
                 }
             }
             return true;
-        }
-    }
-
-    /**
-     * HANG. The TOWNS are filled by numbers, so a set of BELLS (bits) that hang already tells which TOWN is next;
-     * for each such set the least that the rest can cost is kept, the fullest sets first.
-     */
-    private static final class Cheapest {
-        final int[] bellIn = new int[MOST_TOWNS];
-        private final int[] leastRest = new int[1 << MOST_TOWNS];
-        /** WEIGHT times FAR by pair() of TOWN and BELL, or NONE. */
-        private final int[] price = new int[MOST_TOWNS * MOST_TOWNS];
-
-        int search(Told told, Hanging hanging) {
-            setPrices(told, hanging);
-            int all = (1 << told.towns) - 1;
-            put(leastRest, all, 0);
-            for (int hung = all - 1; hung >= 0; hung--) {
-                put(leastRest, hung, leastBehind(told.towns, hung));
-            }
-            int hung = 0;
-            for (int t = 0; t < told.towns; t++) {
-                int bell = firstCheapest(told.towns, hung);
-                put(bellIn, t, bell);
-                hung |= 1 << bell;
-            }
-            return leastRest[0];
-        }
-
-        private void setPrices(Told told, Hanging hanging) {
-            for (int b = 0; b < told.towns; b++) {
-                int from = hanging.townOf(b);
-                for (int t = 0; t < told.towns; t++) {
-                    int way = told.wayBetween(from, t);
-                    boolean open = way != NONE && hanging.bearsBell(told, t, b);
-                    put(price, pair(t, b), open ? at(told.weight, b) * way : NONE);
-                }
-            }
-        }
-
-        private int leastBehind(int towns, int hung) {
-            int least = NONE;
-            for (int b = 0; b < towns; b++) {
-                int sum = sumWith(hung, b);
-                if (sum != NONE && (least == NONE || sum < least)) {
-                    least = sum;
-                }
-            }
-            return least;
-        }
-
-        private int firstCheapest(int towns, int hung) {
-            int least = at(leastRest, hung);
-            for (int b = 0; b < towns; b++) {
-                int sum = sumWith(hung, b);
-                if (sum != NONE && sum == least) {
-                    return b;
-                }
-            }
-            return 0;
-        }
-
-        /** What it costs if this BELL comes into the next TOWN and all others as cheap as can be; NONE. */
-        private int sumWith(int hung, int b) {
-            if ((hung >> b & 1) != 0) {
-                return NONE;
-            }
-            int own = at(price, pair(Integer.bitCount(hung), b));
-            int rest = at(leastRest, hung | 1 << b);
-            return own == NONE || rest == NONE ? NONE : own + rest;
         }
     }
 }

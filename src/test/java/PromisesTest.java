@@ -215,6 +215,23 @@ public final class PromisesTest {
             }
         }
         due("trace() stays", x.trace(), 1);
+        write(x, "t1 1 0;t1 1 0;t1 1 0;d0 1 1;d1 2 1;o0 0 0;o1 1 0;");
+        due("plain() a third time", x.plain(), 7);
+        due("oath(0, 3): not due anew", x.oath(0, 3), 0);
+        x.lots(0);
+        due("oaths(1)", x.oaths(1), 2);
+        write(x, "t1 1 0;t1 1 0;t1 1 0;d0 1 4;d0 2 4;o2 2 2;x");
+        due("plain() with a fault behind ROADS and OATHS", x.plain(), -10 - 42);
+        due("far(0, 2) stays", x.far(0, 2), 2);
+        x.clear();
+        write(x, "t1 1 0;t1 1 0;t1 1 0;d1 2 3;o1 1 0;");
+        due("plain() a fourth time", x.plain(), 5);
+        due("count(1): nothing is left of the fault", x.count(1), 1);
+        due("count(2)", x.count(2), 1);
+        due("far(0, 1)", x.far(0, 1), NONE);
+        due("far(1, 2)", x.far(1, 2), 3);
+        due("oath(0, 0)", x.oath(0, 0), 1);
+        due("oath(0, 3): not due anew", x.oath(0, 3), 0);
         due("plain() of nothing", x.plain(), 0);
         due("count(0) of nothing", x.count(0), 0);
     }
@@ -289,6 +306,8 @@ public final class PromisesTest {
         due("far(LEAST, 0)", x.far(LEAST, 0), BAD);
         BellLots line = told(sixTowns() + "d5 4 9;d4 3 9;d3 2 9;d2 1 9;d1 0 9;");
         due("far(0, 5): all five", line.far(0, 5), 45);
+        BellLots star = told("t1 1 0;t1 1 0;t1 1 0;d0 1 2;d0 2 5;d1 2 8;");
+        due("far(1, 2): by TOWN 0", star.far(1, 2), 7);
         BellLots again = told("t1 1 0;t1 1 0;d0 1 3;d1 0 7;");
         due("far(0, 1): the later one", again.far(0, 1), 7);
     }
@@ -609,6 +628,7 @@ public final class PromisesTest {
             due("round(" + z + ")", x.round(z), BAD);
         }
         due("round(9999) is told", x.round(9999) >= 1 ? 1 : 0, 1);
+        due("round(0) is told", x.round(0) >= 1 ? 1 : 0, 1);
         due("now(0)", x.now(0), 0);
         due("round(3) with no TOWNS", new BellLots().round(3), 1);
     }
