@@ -616,6 +616,8 @@ public final class ModelTest {
         StringBuilder said = new StringBuilder();
         String typing = r.nextInt(10) == 0 ? "" : text(r);
         int typed = 0;
+        // some runs hardly ever turn back, so that they come to the last TERM
+        boolean ahead = r.nextInt(3) == 0;
         for (int n = 0; n < CALLS; n++) {
             String call;
             int a = 0, b = 0, c = 0;
@@ -628,13 +630,15 @@ public final class ModelTest {
             } else {
                 call = CALLS_MIXED[r.nextInt(CALLS_MIXED.length)];
                 // told anew too often, nothing would grow old
-                if (call.equals("plain") && r.nextInt(6) > 0) {
+                boolean turnsBack = call.equals("undo") || call.equals("back");
+                boolean startsAnew = call.equals("plain") && (ahead || r.nextInt(6) > 0);
+                if (startsAnew || ahead && turnsBack && r.nextInt(20) > 0) {
                     call = r.nextBoolean() ? "lots" : "now";
                 }
                 a = number(r, call, 0);
                 b = number(r, call, 1);
                 c = number(r, call, 2);
-                if (r.nextInt(300) == 0) {
+                if (!ahead && r.nextInt(300) == 0) {
                     typing = text(r);
                     typed = 0;
                 }
