@@ -495,12 +495,16 @@ public final class PromisesTest {
     }
 
     private static void inLots() {
-        BellLots x = told("t10 10 0;t20 20 0;t30 30 0;o0 0 0;");
+        String text = "t10 10 0;t20 20 0;t30 30 0;o0 0 0;";
         for (int k = 0; k <= 20; k++) {
+            // an object for each k: what one answers behind its 512th call is free
+            BellLots each = told(text);
             for (int z : new int[] {0, 123, 9980, 9990, 9999}) {
-                checkInLots(x, z, k);
+                checkInLots(each, z, k);
             }
         }
+        BellLots x = told(text);
+        checkInLots(x, 9999, 20);
         due("now(0): nothing is changed", x.now(0), 0);
         due("now(1)", x.now(1), 0);
         due("now(4)", x.now(4), 0);
