@@ -325,13 +325,38 @@ public final class BoundariesTest {
     }
 
     private static void readAnew() {
-        Run x = told(THREE + "d0 1 1;o0 0 0;").done("keep(0)", "lots(5)", "keep(1)", "trades(0, 1)", "widens(2, 50)");
-        x.times(5, "found(0, 0)").done("rate(0, 0)").letters("t9 20 1;t9 8 1;o1 1 0;").due("plain()", 3);
+        // BELLS 1 2 0: TOWERS 0 and 1 are CUT
+        Run x = told("t1 1 0;t2 2 0;t3 3 0;d0 1 1;o0 0 0;").done("keep(0)", "lots(11)", "keep(1)", "widens(2, 50)");
+        x.due("now(1)", 2).times(5, "found(0, 0)").done("rate(0, 0)").letters("t9 20 1;t9 8 1;o1 1 0;");
+        x.due("plain()", 3);
         x.due("now(0)", 0).due("now(1)", 0).due("now(2)", 3).due("now(4)", 0).due("undo()", STATE);
         x.due("town(0, 0)", 20).due("town(1, 0)", 9).due("count(0)", 2).due("count(1)", 0).due("count(2)", 1);
         x.due("count(3)", 0).due("forget()", 0).due("back(0)", STATE).due("back(1)", STATE).due("far(0, 1)", NONE);
         x.due("oath(0, 0)", 1).due("oath(0, 3)", 0).due("oath(1, 0)", BAD).due("strokes(0, 0)", 0).due("trace()", 1);
         x.due("town(2, 0)", BAD).done("lots(0)").due("oaths(1)", 1).due("strokes(0, 0)", 1).due("now(4)", 1);
+    }
+
+    /** Nothing of the texts before is left, be they good or with a FAULT: neither TOWNS nor ROADS nor OATHS. */
+    private static void readThrice() {
+        String rich = TWO + "d0 1 3;o0 0 0;o1 1 0;";
+        Run x = told(rich).letters(TWO).due("plain()", 2).due("count(1)", 0).due("count(2)", 0).due("far(0, 1)", NONE);
+        x.letters(TWO).due("plain()", 2).due("count(1)", 0).due("count(2)", 0).due("far(0, 1)", NONE);
+        x.letters(rich).due("plain()", 5).due("count(1)", 1).due("count(2)", 2).due("oath(0, 3)", 0);
+        Run y = told(TWO).letters(rich + "x").due("plain()", -10 - 35).due("count(1)", 0).due("clear()", 36);
+        y.letters(SIX).due("plain()", 6).due("count(0)", 6).due("count(1)", 0).due("count(2)", 0).due("far(0, 1)", NONE);
+        y.letters(rich.repeat(2) + "x").due("plain()", -10 - 70).due("clear()", 71).due("count(0)", 6);
+        y.letters(ONE + "o0 0 0;".repeat(6)).due("plain()", 7).due("count(0)", 1).due("count(2)", 6);
+    }
+
+    /** The TOWNS that were told before and are not any more count nowhere. */
+    private static void fewerTowns() {
+        Run x = told("t99 99 6;".repeat(6) + "d0 1 1;d1 2 1;d4 5 1;").done("lots(812)");
+        for (int again = 0; again < 3; again++) {
+            x.letters(TWO).due("plain()", 2).due("count(0)", 2).due("town(2, 0)", BAD).due("bell(2, 0)", BAD);
+            x.due("bell(0, 3)", 3).due("now(2)", 3).due("now(3)", 0).due("odds(0)", 1).due("odds(1)", 1);
+            x.due("home(0)", 0).due("hang(-1)", 0).due("round(1)", 2).due("cost(1)", NONE).due("inLots(1, 1, 0)", 1);
+            x.done("lots(1)").due("now(1)", 0).due("now(2)", 0).due("home(0)", 1).due("home(1)", 1);
+        }
     }
 
     // ---- 5, 6: TOWNS and BELLS
@@ -389,6 +414,8 @@ public final class BoundariesTest {
         told(TWO).due("far(0, 1)", NONE).due("far(1, 0)", NONE).due("far(0, 0)", 0).due("far(1, 1)", 0);
         told(THREE + "d0 1 9;").due("far(0, 2)", NONE).due("far(2, 1)", NONE).due("far(0, 1)", 9).due("far(2, 2)", 0);
         told(SIX + "d0 1 9;d1 2 9;d2 3 9;d3 4 9;d4 5 9;").due("far(0, 5)", 45).due("far(5, 0)", 45);
+        told(THREE + "d0 1 1;d0 2 1;").due("far(1, 2)", 2).due("far(2, 1)", 2);
+        told(THREE + "d0 1 9;d0 2 9;d1 2 9;").due("far(1, 2)", 9);
         told(SIX + "d5 0 9;d0 1 1;d1 2 1;d2 3 1;d3 4 1;d4 5 1;").due("far(0, 5)", 5);
         told(SIX + "d5 0 5;d0 1 1;d1 2 1;d2 3 1;d3 4 1;d4 5 1;").due("far(5, 0)", 5);
         told(SIX + "d5 0 4;d0 1 1;d1 2 1;d2 3 1;d3 4 1;d4 5 1;").due("far(5, 0)", 4);
@@ -650,6 +677,12 @@ public final class BoundariesTest {
         Run ring = told(SIX).done("lots(812)").due("home(0)", 5).due("home(1)", 5);
         ring.done("trades(0, 5)").due("home(0)", 4).due("home(1)", 15);
         told(SIX).done("trades(0, 1)", "trades(2, 3)", "trades(4, 5)").due("home(0)", 3).due("home(1)", 1);
+        // rings by 31: of three and of two; by 77: of five
+        told(SIX).done("lots(31)").due("home(0)", 3).due("home(1)", 2);
+        told(SIX).done("lots(77)").due("home(0)", 4).due("home(1)", 4);
+        told(SIX).done("trades(0, 2)", "trades(1, 3)").due("home(0)", 2).due("home(1)", 2);
+        told(SIX).done("trades(0, 2)", "trades(2, 4)").due("home(0)", 2).due("home(1)", 4);
+        told(SIX).done("trades(1, 3)", "trades(3, 5)", "trades(0, 2)").due("home(0)", 3).due("home(1)", 2);
         told(SIX).done("trades(0, 1)", "undo()").due("home(0)", 0).due("home(1)", NONE);
     }
 
@@ -717,6 +750,19 @@ public final class BoundariesTest {
         x.done("lots(0)").due("strokes(0, 1)", 1).due("strokes(1, 0)", 1);
         Run last = told(ONE).times(60, STAY).due("strokes(0, 0)", 60).due("lots(0)", STATE).due("strokes(0, 0)", 60);
         last.done("undo()").due("strokes(0, 0)", 59);
+        // of the last BELL and the last TOWN too, and undone with the rest
+        Run six = told(SIX).done("lots(513)", "keep(0)", "lots(513)");
+        for (int b = 0; b < 6; b++) {
+            six.due("strokes(" + b + ", " + b + ")", 2).due("strokes(" + b + ", " + (5 - b) + ")", 0);
+        }
+        six.done("undo()");
+        for (int b = 0; b < 6; b++) {
+            six.due("strokes(" + b + ", " + b + ")", 1);
+        }
+        six.done("lots(513)", "lots(513)", "back(0)");
+        for (int b = 0; b < 6; b++) {
+            six.due("strokes(" + b + ", " + b + ")", 1);
+        }
     }
 
     // ---- 22 .. 25: what was FOUND, odds
@@ -899,6 +945,8 @@ public final class BoundariesTest {
             BoundariesTest::wrongTokens);
         Run.sentence(4, "the text's length, if it ends too early.", BoundariesTest::endsTooEarly);
         Run.sentence(4, "(Read anew: as told, TERM 0, nothing FOUND, IMAGES are gone.)", BoundariesTest::readAnew);
+        Run.sentence(4, "THE TEXT tells all anew", BoundariesTest::readThrice);
+        Run.sentence(4, "(a number is not as told, or there is no such thing)", BoundariesTest::fewerTowns);
         Run.sentence(5, "Of a TOWN: 0 what its TOWER bears, 1 its BELL, 2 where its own BELL hangs, 3 whether it is "
             + "DUMB. BAD.", BoundariesTest::townNumbers);
         Run.sentence(5, "DUMB: TOWNS (bits) with a ROAD to one whose BELL has the same NOTE.", BoundariesTest::dumb);
