@@ -324,6 +324,19 @@ public final class BoundariesTest {
         items(SIX + " ".repeat(151) + "o0 0 6;", 7);
     }
 
+    /** Letters of a longer text before, taken away by clear() or read by plain(), are no letters of this one. */
+    private static void shorterText() {
+        empty().letters("t1 1 0    ").due("clear()", 10).letters("t1 1 0").due("plain()", -16);
+        empty().letters("t1 1 0; ;").due("clear()", 9).letters("t1 1 0").due("plain()", -16).due("clear()", 6)
+            .letters("t1 1").due("plain()", -14);
+        empty().letters("t123").due("clear()", 4).letters("t1").due("plain()", -12).due("clear()", 2);
+        empty().letters("      ").due("clear()", 6).letters("t").due("plain()", -11);
+        told("t11 11 0;").letters("t1").due("plain()", -12).due("clear()", 2).letters("t1 1 0;").due("plain()", 1);
+        told(SIX).due("plain()", 0).due("count(0)", 0);
+        empty().letters(SIX).due("clear()", 42).due("plain()", 0).due("count(0)", 0);
+        empty().letters("x".repeat(200)).due("clear()", 200).letters(ONE).due("plain()", 1).due("count(4)", 0);
+    }
+
     private static void readAnew() {
         // BELLS 1 2 0: TOWERS 0 and 1 are CUT
         Run x = told("t1 1 0;t2 2 0;t3 3 0;d0 1 1;o0 0 0;").done("keep(0)", "lots(11)", "keep(1)", "widens(2, 50)");
@@ -750,18 +763,18 @@ public final class BoundariesTest {
         x.done("lots(0)").due("strokes(0, 1)", 1).due("strokes(1, 0)", 1);
         Run last = told(ONE).times(60, STAY).due("strokes(0, 0)", 60).due("lots(0)", STATE).due("strokes(0, 0)", 60);
         last.done("undo()").due("strokes(0, 0)", 59);
-        // of the last BELL and the last TOWN too, and undone with the rest
-        Run six = told(SIX).done("lots(513)", "keep(0)", "lots(513)");
+        // of each BELL in each TOWN, the last ones too, and undone with the rest; by 513 all stay
+        allStrokes(told(SIX).done("lots(513)", "lots(513)"), 2);
+        allStrokes(told(SIX).done("lots(513)", "lots(513)", "undo()"), 1);
+        allStrokes(told(SIX).done("lots(513)", "keep(0)", "lots(513)", "lots(812)", "back(0)"), 1);
+        allStrokes(told(SIX).times(60, "lots(513)"), 60);
+    }
+
+    private static void allStrokes(Run x, int atHome) {
         for (int b = 0; b < 6; b++) {
-            six.due("strokes(" + b + ", " + b + ")", 2).due("strokes(" + b + ", " + (5 - b) + ")", 0);
-        }
-        six.done("undo()");
-        for (int b = 0; b < 6; b++) {
-            six.due("strokes(" + b + ", " + b + ")", 1);
-        }
-        six.done("lots(513)", "lots(513)", "back(0)");
-        for (int b = 0; b < 6; b++) {
-            six.due("strokes(" + b + ", " + b + ")", 1);
+            for (int t = 0; t < 6; t++) {
+                x.due("strokes(" + b + ", " + t + ")", b == t ? atHome : 0);
+            }
         }
     }
 
@@ -946,6 +959,7 @@ public final class BoundariesTest {
         Run.sentence(4, "the text's length, if it ends too early.", BoundariesTest::endsTooEarly);
         Run.sentence(4, "(Read anew: as told, TERM 0, nothing FOUND, IMAGES are gone.)", BoundariesTest::readAnew);
         Run.sentence(4, "THE TEXT tells all anew", BoundariesTest::readThrice);
+        Run.sentence(4, "THE TEXT tells all anew, and is empty then", BoundariesTest::shorterText);
         Run.sentence(4, "(a number is not as told, or there is no such thing)", BoundariesTest::fewerTowns);
         Run.sentence(5, "Of a TOWN: 0 what its TOWER bears, 1 its BELL, 2 where its own BELL hangs, 3 whether it is "
             + "DUMB. BAD.", BoundariesTest::townNumbers);
