@@ -7,6 +7,8 @@ import java.nio.file.Path;
 import java.util.Arrays;
 import java.util.Set;
 import java.util.TreeSet;
+import java.util.regex.Matcher;
+import java.util.regex.Pattern;
 
 /**
  * The calls on one new BellLots, told as texts such as "town(0, 1)", so that what is printed is what was asked; and,
@@ -22,6 +24,8 @@ public final class Run {
     private static final Set<Integer> PROMISES = new TreeSet<>();
     private static String label = "";
     private static int tests = 0, wrong = 0;
+    /** How far the document was read by next(). */
+    private static int read = 0;
 
     private final BellLots x = new BellLots();
     private int calls = 0;
@@ -106,6 +110,37 @@ public final class Run {
             complain("the document does not say so");
         }
         cases.run();
+    }
+
+    /** The same for words that must follow in the document upon those before: so nothing in it is passed over. */
+    public static void next(int promise, String words, Runnable cases) {
+        read += betweenPieces();
+        boolean follows = DOCUMENT.startsWith(words, read);
+        sentence(promise, words, cases);
+        if (follows) {
+            read += words.length();
+        } else {
+            complain("the document goes on otherwise: " + DOCUMENT.substring(read, Math.min(read + 60, DOCUMENT.length())));
+            read = Math.max(read, DOCUMENT.indexOf(words, read) + words.length());
+        }
+    }
+
+    /** All of the document from where it is read till these words, for a test that takes it apart itself. */
+    public static String readUpTo(String words) {
+        int from = read;
+        read = Math.max(read, DOCUMENT.indexOf(words, read));
+        return DOCUMENT.substring(from, read);
+    }
+
+    /** What was not read yet of the document. */
+    public static String unread() {
+        return DOCUMENT.substring(read + betweenPieces());
+    }
+
+    /** Blanks and the fences of texts are no words. */
+    private static int betweenPieces() {
+        Matcher gap = Pattern.compile("(\\s|```(text)?)*").matcher(DOCUMENT).region(read, DOCUMENT.length());
+        return gap.lookingAt() ? gap.end() - read : 0;
     }
 
     public static void complain(String what) {
